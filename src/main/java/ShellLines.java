@@ -9,7 +9,9 @@ public final class ShellLines {
     private static final int NOTHING = -11, CAST = -12, PLACE = -13, SIZE = -14;
     /** Told where a number of something is asked and there is no such thing. */
     private static final int ABSENT = -5;
-    private static final int FAULT = -10, LOOKED_AT = 100, OUT_FROM = 40;
+    private static final int FAULT_FROM = -10, LOOKED_AT_FROM = 100;
+    /** From where on told and on tell what there are more of than one. */
+    private static final int VALUES_FROM = 10, FUNCTIONS_FROM = 20, TRAP_AT = 30, OUT_FROM = 40;
 
     private static final int LINES = 8, TEXT = 100, LAST_SIGN = 127;
     private static final int NAMES = 5, FUNCTIONS = 3, JOBS = 4, TAPES = 6;
@@ -68,7 +70,7 @@ public final class ShellLines {
             return FULL;
         }
         Line read = reader.readLine();
-        return read == null ? FAULT - reader.fault : machine.add(read);
+        return read == null ? FAULT_FROM - reader.fault : machine.add(read);
     }
 
     public int of(int line, int what) {
@@ -142,16 +144,13 @@ public final class ShellLines {
     }
 
     public long told(int what) {
-        if (what >= 10 && what < 10 + NAMES) {
-            return now.values[what - 10];
+        if (what >= VALUES_FROM && what < VALUES_FROM + NAMES) {
+            return now.values[what - VALUES_FROM];
         }
-        if (what >= 20 && what < 20 + FUNCTIONS) {
-            return now.functions[what - 20];
+        if (what >= FUNCTIONS_FROM && what < FUNCTIONS_FROM + FUNCTIONS) {
+            return now.functions[what - FUNCTIONS_FROM];
         }
-        if (what == 30) {
-            return now.trap;
-        }
-        return ofRun(now, what);
+        return what == TRAP_AT ? now.trap : ofRun(now, what);
     }
 
     /** What told and on both tell of a RUN. */
@@ -397,7 +396,7 @@ public final class ShellLines {
         for (int k = 0; k < now.out.size; k++) {
             // Subtracted, not added: i may be near the largest int.
             if (i < 0 || i >= row.size - k) {
-                return LOOKED_AT + k;
+                return LOOKED_AT_FROM + k;
             }
             if (row.items[i + k] != now.out.at(k)) {
                 return k;
@@ -547,9 +546,13 @@ public final class ShellLines {
     /** A PIPE as it was read, and the one behind it in its LIST. */
     private static final class Pipe {
         final Stage[] stages = new Stage[STAGES];
-        int size;
+        int size = 1;
         int join = ';';
         Pipe next;
+
+        Pipe(Stage first) {
+            stages[0] = first;
+        }
     }
 
     /** A LINE, and what is told of it. */
@@ -626,12 +629,13 @@ public final class ShellLines {
         }
 
         private Pipe readPipe(int depth) {
-            Pipe pipe = new Pipe();
-            for (int i = 0; i < STAGES; i++) {
-                if (i > 0 && !takes('|')) {
-                    return pipe;
-                }
-                Stage stage = i == 0 && peek() == '{' ? readBraces(depth) : readCommand(i == 0);
+            Stage first = peek() == '{' ? readBraces(depth) : readCommand(true);
+            if (first == null) {
+                return null;
+            }
+            Pipe pipe = new Pipe(first);
+            for (int i = 1; i < STAGES && takes('|'); i++) {
+                Stage stage = readCommand(false);
                 if (stage == null) {
                     return null;
                 }
@@ -1065,21 +1069,21 @@ public final class ShellLines {
             int n = f.worked[s * TERMS];
             switch (stage.word) {
                 case ECHO:
-                    return given < stage.termCount ? gives(f, s, f.worked[s * TERMS + given]) : over(f, s);
+                    return given < stage.termCount ? gives(f, s, f.worked[s * TERMS + given]) : end(f, s);
                 case SEQ:
-                    return given < Math.min(n, SEQ_MOST) ? gives(f, s, given + 1) : over(f, s);
+                    return given < Math.min(n, SEQ_MOST) ? gives(f, s, given + 1) : end(f, s);
                 case BRACES:
                 case F:
                 case G:
                 case H:
-                    return given < f.wrote.size ? gives(f, s, f.wrote.at(given)) : over(f, s);
+                    return given < f.wrote.size ? gives(f, s, f.wrote.at(given)) : end(f, s);
                 case OK:
                 case FAIL:
-                    return over(f, s);
+                    return end(f, s);
                 case MOD:
-                    return n == 0 ? over(f, s) : ASKS;
+                    return n == 0 ? end(f, s) : ASKS;
                 case TAKE:
-                    return given < n ? ASKS : over(f, s);
+                    return given < n ? ASKS : end(f, s);
                 default:
                     return ASKS;
             }
@@ -1099,7 +1103,7 @@ public final class ShellLines {
                 case MUL:
                     return v * n;
                 case MOD:
-                    return n == 0 ? over(f, s) : v % n;
+                    return n == 0 ? end(f, s) : v % n;
                 case KEEP:
                     return (n == 0 ? v == 0 : v % n == 0) ? v : ASKS;
                 case TAKE:
@@ -1112,7 +1116,7 @@ public final class ShellLines {
                     f.statuses[s] = 0;
                     return ASKS;
                 default:
-                    return over(f, s);
+                    return end(f, s);
             }
         }
 
@@ -1134,7 +1138,7 @@ public final class ShellLines {
             return x;
         }
 
-        private static long over(Frame f, int s) {
+        private static long end(Frame f, int s) {
             f.over[s] = true;
             return NO;
         }

@@ -67,6 +67,13 @@ public final class JobsTest {
         x.stop(0);
         C.due("a JOB anew", x.job(1), 0);
         turn(x, 0, 8);
+        // One that is stopped in the midst of a PIPE leaves nothing behind.
+        x.stop(0);
+        C.due("a JOB anew", x.job(0), 0);
+        turn(x, 0, 1);
+        x.stop(0);
+        C.due("a JOB anew", x.job(1), 0);
+        turn(x, 0, 8, 10, 1, ShellLines.NO);
     }
 
     private static void goesOnlyAsAsked() {

@@ -137,6 +137,11 @@ public final class LinesTest {
     private static void faultsOfWords() {
         fault("okk", 0);
         fault("ec", 0);
+        fault("okz", 0);
+        fault("oka", 0);
+        fault("ok`", 2);
+        fault("seq :", 4);
+        fault("seq /", 4);
         fault("echo 1;se", 7);
         fault("ok|nope|ok", 3);
         fault("f", 1);

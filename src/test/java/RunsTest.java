@@ -199,6 +199,10 @@ public final class RunsTest {
         x.define(2, 2);
         // f 5 in h: $p of h is 1, of f 5.
         C.runs(x, 5, "1 7", 0, 3);
+        // Digits are what they read, in FUNCTIONS, too.
+        ShellLines y = Check.with("echo 0 1 $p", "f 7");
+        y.define(0, 0);
+        C.runs(y, 1, "0 1 7", 0, 0);
         x.define(0, 5);
         x.define(1, -1);
         x.define(2, -1);

@@ -8,6 +8,7 @@ public final class TapesTest {
         judges();
         images();
         imageKeeps();
+        imageIsACopy();
         counts();
         tapes();
         items();
@@ -132,6 +133,38 @@ public final class TapesTest {
         C.due("THE TEXT", x.count(5), 2);
     }
 
+    private static void imageIsACopy() {
+        ShellLines x = Check.with("echo 4 5", "echo 6 7 8", "echo $a", "echo 3|set b");
+        x.run(0);
+        x.see(0, 4);
+        x.plan(0, 3);
+        x.book(0, 0);
+        x.image();
+        x.run(1);
+        x.see(-1, 0);
+        x.see(0, 9);
+        x.see(0, 9);
+        x.plan(-1, 0);
+        x.plan(1, 1);
+        x.book(-1, 0);
+        x.book(0, 2);
+        for (int times = 0; times < 2; times++) {
+            x.undo();
+            C.due("OUT", x.told(40), 4);
+            C.due("OUT", x.told(41), 5);
+            C.due("OUT", x.told(42), ShellLines.NO);
+            C.due("SEEN", x.fits(2, 0, 1), 4);
+            C.due("the PLAN", x.ends(1), 3);
+            C.due("the BOOK", x.looked(), -5);
+            x.run(1);
+            x.see(-1, 0);
+            x.plan(-1, 0);
+            x.book(-1, 0);
+            x.value(0, 1);
+            x.book(0, 2);
+        }
+    }
+
     private static void counts() {
         ShellLines x = Check.with("ok", "ok", "ok", "ok", "ok", "ok", "seq 9");
         x.job(6);
@@ -170,6 +203,11 @@ public final class TapesTest {
         C.due("it stays", x.read(0, 3), 7);
         C.due("again", x.tape(0, 1, 5), 1);
         C.due("all 0", x.read(0, 3), 0);
+        x.item(0, 0, 3);
+        x.item(0, 4, 3);
+        C.due("again", x.tape(0, 1, 5), 1);
+        C.due("the first is 0", x.read(0, 0), 0);
+        C.due("the last is 0", x.read(0, 4), 0);
         C.due("of 5 alone", x.read(0, 5), ShellLines.NO);
         C.due("tape(0, 4, 0)", x.tape(0, 4, 0), 1);
         C.due("of none", x.read(0, 0), ShellLines.NO);
