@@ -3,9 +3,25 @@ final class Check {
     private final String name;
     private int right;
     private int wrong;
+    private String sentence;
+    private int answersAhead;
 
     Check(String name) {
         this.name = name;
+    }
+
+    /** Words of DOC.md that the answers behind this call hold the program to; SentencesTest reads them. */
+    void says(String words) {
+        sentenceEnds();
+        sentence = words;
+        answersAhead = right + wrong;
+    }
+
+    private void sentenceEnds() {
+        if (sentence != null && answersAhead == right + wrong) {
+            wrong++;
+            System.out.println(name + ": no answer is looked at for \"" + sentence + "\"");
+        }
     }
 
     void due(String call, long got, long want) {
@@ -14,11 +30,15 @@ final class Check {
         } else {
             wrong++;
             System.out.println(name + ": " + call + " answered " + got + ", due is " + want);
+            if (sentence != null) {
+                System.out.println("    \"" + sentence + "\"");
+            }
         }
     }
 
     /** Ends the program; with 1, if an answer was not as due. */
     void end() {
+        sentenceEnds();
         System.out.println(name + ": " + right + " answers as due, " + wrong + " not");
         if (wrong > 0 || right == 0) {
             System.exit(1);
@@ -46,6 +66,29 @@ final class Check {
             }
         }
         return x;
+    }
+
+    /** A text on a new object is no LINE: its FAULT is told, THE TEXT is empty then, and a LINE can come. */
+    void fault(String text, int place) {
+        ShellLines x = new ShellLines();
+        due("line of '" + text + "'", line(x, text), -10 - place);
+        due("bytes behind '" + text + "'", x.count(5), 0);
+        due("LINES behind '" + text + "'", x.count(0), 0);
+        due("a LINE behind '" + text + "'", line(x, "ok"), 0);
+    }
+
+    /** Each of these texts on a new object is a LINE. */
+    void reads(String... texts) {
+        for (String text : texts) {
+            due("line of '" + text + "'", line(new ShellLines(), text), 0);
+        }
+    }
+
+    /** What a number of TURNS of a JOB answer. */
+    void turns(ShellLines x, int job, long... want) {
+        for (int i = 0; i < want.length; i++) {
+            due("turn(" + job + ") for the time " + (i + 1), x.turn(job), want[i]);
+        }
     }
 
     /** OUT of the latest RUN, as a text. */

@@ -26,7 +26,9 @@ public final class RulesTest {
     public static void main(String[] args) throws Exception {
         face();
         members();
-        source(Files.readString(Path.of("src/main/java/ShellLines.java")));
+        String source = Files.readString(Path.of("src/main/java/ShellLines.java"));
+        source(source);
+        order(source);
         C.end();
     }
 
@@ -89,6 +91,23 @@ public final class RulesTest {
         is("no method reference", !code.contains("::"));
         is("no endless loop", !Pattern.compile("while \\(true\\)|for \\(;;\\)").matcher(code).find());
         lengths(code);
+    }
+
+    /** The calls stand in the document's order, and ahead of them what the interface says there. */
+    private static void order(String whole) {
+        String[] order = {
+            "// ---- lines\n", "int feed(", "int line(", "int of(", "int define(", "int trap(", "long value(",
+            "// ---- runs, jobs\n", "int run(", "long told(", "int job(", "long turn(", "int stop(",
+            "// ---- what would be\n", "long on(", "int see(", "int fits(", "int alike(", "long odds(", "long mean(",
+            "// ---- plans, books\n", "int plan(", "long ends(", "int book(", "int looked(",
+            "// ---- judging, the image, tapes\n", "int judge(", "int image(", "int undo(", "int count(", "int tape(", "int item(",
+            "long read(", "int shift("};
+        int at = whole.indexOf("public ShellLines()");
+        for (String part : order) {
+            int next = whole.indexOf((part.startsWith("/") ? "    " : "    public ") + part, Math.max(at, 0));
+            is(part.trim() + " stands behind what is ahead of it in the document", at >= 0 && next > at);
+            at = next;
+        }
     }
 
     /** No method has more than 60 lines, nor more than seven parameters. */
