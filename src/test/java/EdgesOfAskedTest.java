@@ -192,6 +192,9 @@ public final class EdgesOfAskedTest {
         // The RUN may set the NAME itself; the next number is tried as if it had not.
         C.due("set by the RUN", x.fits(3, 0, 0), 0);
         C.due("set behind", x.fits(5, 1, 0), 1);
+        ShellLines y = Check.with("echo $b;echo $a|set b");
+        y.see(0, 0);
+        C.due("another's VALUE set by each RUN", y.fits(0, 0, 0), 20);
         x.value(3, 7);
         x.see(1, 7);
         C.due("with another's VALUE", x.fits(6, 1, 1), 3);
@@ -315,12 +318,14 @@ public final class EdgesOfAskedTest {
         x.value(0, 9);
         odds(x, 1, 0, 1, 10);
         odds(x, 1, 2, 1, 1);
-        ShellLines y = Check.with("fail $e", "mod $d", "echo $a|add 1|set a;echo 1|mod $b", "ok");
+        ShellLines y = Check.with("fail $e", "mod $d", "echo $a|add 1|set a;echo 1|mod $b", "ok", "echo 1");
         odds(y, 0, 4, 1, 10);
         odds(y, 1, 3, 9, 10);
         odds(y, 2, 1, 9, 10);
         // THE TRAP does not mend STATUS.
         y.trap(3);
+        odds(y, 0, 4, 1, 10);
+        y.trap(4);
         odds(y, 0, 4, 1, 10);
         odds(y, 0, 0, 1, 1);
         C.due("VALUE stays", y.told(14), 0);

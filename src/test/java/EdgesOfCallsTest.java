@@ -294,6 +294,12 @@ public final class EdgesOfCallsTest {
         x.run(3);
         C.due("OUT", x.told(0), 60);
         C.due("READS", x.told(2), 5 * 99);
+        // What a JOB reads is not the RUN's.
+        x.job(0);
+        C.turns(x, 0, 2, 3);
+        C.due("READS of the latest RUN", x.told(2), 5 * 99);
+        C.due("STATUS of the latest RUN", x.told(1), 0);
+        C.due("OUT of the latest RUN", x.told(0), 60);
     }
 
     private static void toldOfNow() {

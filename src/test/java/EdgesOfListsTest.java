@@ -15,6 +15,7 @@ public final class EdgesOfListsTest {
         deepest();
         statusOfLists();
         statusOfFunctions();
+        noLineWhereFourWere();
         onePipeBehindAnother();
         joins();
         pipesThatDoNotGo();
@@ -175,6 +176,20 @@ public final class EdgesOfListsTest {
         ShellLines y = Check.with("f 1/echo 5", "f 1");
         y.define(0, 0);
         C.runs(y, 1, "5", 0, 0);
+    }
+
+    private static void noLineWhereFourWere() {
+        C.says("1, if it has none; 9, if 4 were going.");
+        // f goes on until a is 4, and then h is asked, which has no LINE: what is named first is told.
+        ShellLines x = Check.with("echo $a|add 1|set a;echo $a|keep 4|set b/f 1&h 1", "f 1", "ok");
+        x.define(0, 0);
+        C.runs(x, 1, "", 1, 13);
+        x.value(0, 0);
+        x.define(2, 2);
+        C.runs(x, 1, "", 9, 13);
+        // Where 3 are going it has a LINE, and goes.
+        x.value(0, 1);
+        C.runs(x, 1, "", 0, 10);
     }
 
     private static void onePipeBehindAnother() {
@@ -403,9 +418,10 @@ public final class EdgesOfListsTest {
         // Those that are left out are got, too.
         C.runs("seq 99|add 1|sum", 0, 0, "5049", 0, 198);
         C.due("numbers got for 60 of OUT", Check.with("seq 99|add 0").on(0, 2), 99);
-        ShellLines x = Check.with("fail 1", "seq 4|sum", "f 1|add 1");
+        ShellLines x = Check.with("fail 1", "seq 4|sum", "f 1|add 1", "seq 3|sum;fail 2");
         x.trap(1);
         C.runs(x, 0, "10", 1, 4);
+        C.runs(x, 3, "6 10", 2, 7);
         x.define(0, 1);
         C.runs(x, 2, "11", 0, 5);
         C.runs(x, 1, "10", 0, 4);
